@@ -384,7 +384,7 @@ public final class TypedDescent {
 
         /** 1 .. 62 for digits and letters, so that a name of ten of them is one long; else 0. */
         private static int symbol(int c) {
-            if (isDigit(c)) {
+            if (c >= '0' && c <= '9') {
                 return c - '0' + 1;
             }
             if (c >= 'A' && c <= 'Z') {
@@ -498,7 +498,9 @@ public final class TypedDescent {
         }
 
         void want(int sort) {
-            if (!takes(sort)) {
+            if (sort() == sort) {
+                accept();
+            } else {
                 syntax();
             }
         }
@@ -528,7 +530,9 @@ public final class TypedDescent {
         }
 
         void wantOpen(int sort) {
-            if (!opens(sort)) {
+            if (sort() == sort) {
+                open();
+            } else {
                 syntax();
             }
         }
@@ -559,7 +563,7 @@ public final class TypedDescent {
         static final int SOME = 7;
         static final int CODE = 8;
 
-        private static final int CELLS = 200000;
+        private static final int CELLS = 240000;
         private static final int HEADS = 4096;
         private static final int STACK = 4096;
         private static final int LETTERS = 4096;
@@ -569,7 +573,7 @@ public final class TypedDescent {
         private static final int REACH = 3;
         private static final int CHILDREN = 4;
         private static final int MANY_PARTS = 100000;
-        private static final int DEEPEST = 120;
+        private static final int DEEPEST = 100;
 
         private final int[] cells = new int[CELLS];
         private final int[] heads = new int[HEADS];
@@ -591,49 +595,42 @@ public final class TypedDescent {
             forgetNames();
         }
 
-        private boolean isMade(int kind) {
-            return kind >= FIRST && kind < top && kind < CELLS - CHILDREN;
+        private int cell(int kind, int which) {
+            int at = kind + which;
+            return kind >= FIRST && kind < top && at >= 0 && at < CELLS ? cells[at] : 0;
         }
 
         int tag(int kind) {
-            return isMade(kind) ? cells[kind + HEAD] & 15 : 0;
+            return cell(kind, HEAD) & 15;
         }
 
         int size(int kind) {
-            return isMade(kind) ? cells[kind + HEAD] >>> 4 & 15 : 0;
+            return cell(kind, HEAD) >>> 4 & 15;
         }
 
         /** Of a code, how many vars; of a name, which one. */
         int extra(int kind) {
-            return isMade(kind) ? cells[kind + HEAD] >>> 8 : 0;
+            return cell(kind, HEAD) >>> 8;
         }
 
         int parts(int kind) {
-            return isMade(kind) ? cells[kind + PARTS] : 0;
+            return cell(kind, PARTS);
         }
 
-        private int reach(int kind) {
-            return isMade(kind) ? cells[kind + REACH] : 0;
-        }
-
-        private int link(int kind, int i) {
-            int at = kind + CHILDREN + i;
-            return i >= 0 && i < size(kind) && at < CELLS ? cells[at] : 0;
-        }
-
+        /** Part i, for an i that is below the size. */
         int child(int kind, int i) {
-            return link(kind, i) >> 4;
+            return cell(kind, CHILDREN + i) >> 4;
         }
 
         /** Of a field 1 for ?, of a code's part its register. */
         int mark(int kind, int i) {
-            return link(kind, i) & 15;
+            return cell(kind, CHILDREN + i) & 15;
         }
 
-        private int binders(int kind) {
-            int tag = tag(kind);
+        /** How many names are told ahead of the parts of such a kind. */
+        private static int binders(int tag, int extra) {
             if (tag == CODE) {
-                return extra(kind);
+                return extra;
             }
             return tag == ALL || tag == SOME ? 1 : 0;
         }
@@ -669,7 +666,7 @@ public final class TypedDescent {
             int kind = find(heads[hash], head, from);
             if (kind == 0) {
                 kind = store(hash, head, from);
-                measure(kind, from);
+                measure(kind, tag == BOUND ? extra + 1 : 0, from, binders(tag, extra));
             }
             stacked = from;
             return kind;
@@ -715,16 +712,16 @@ public final class TypedDescent {
             return kind;
         }
 
-        private void measure(int kind, int from) {
-            if (!isMade(kind)) {
+        private void measure(int kind, int ownReach, int from, int binders) {
+            if (kind < FIRST || kind >= CELLS - CHILDREN) {
                 return;
             }
             int parts = 1;
-            int reach = tag(kind) == BOUND ? extra(kind) + 1 : 0;
+            int reach = ownReach;
             for (int i = from; i < stacked; i++) {
                 int child = stack[i] >> 4;
-                parts = Math.min(parts + parts(child), MANY_PARTS);
-                reach = Math.max(reach, reach(child) - binders(kind));
+                parts = Math.min(parts + cell(child, PARTS), MANY_PARTS);
+                reach = Math.max(reach, cell(child, REACH) - binders);
             }
             cells[kind + PARTS] = parts;
             cells[kind + REACH] = reach;
@@ -755,10 +752,10 @@ public final class TypedDescent {
             if (tag == FREE) {
                 return extra(kind) == free ? make(BOUND, index, 0) : kind;
             }
+            int inner = index + binders(tag, extra(kind));
             int n = size(kind);
             for (int i = 0; i < n; i++) {
-                int child = closed(child(kind, i), free, index + binders(kind), depth + 1);
-                push(child, mark(kind, i));
+                push(closed(child(kind, i), free, inner, depth + 1), mark(kind, i));
             }
             return n == 0 ? kind : make(tag, extra(kind), n);
         }
@@ -769,25 +766,27 @@ public final class TypedDescent {
                 return replaced(child(kind, 0), 0, argument, 0);
             }
             int left = Math.max(0, extra(kind) - 1);
-            pushReplaced(kind, left, argument, 0);
-            return make(CODE, left, size(kind));
+            int n = size(kind);
+            for (int i = 0; i < n; i++) {
+                push(replaced(child(kind, i), left, argument, 0), mark(kind, i));
+            }
+            return make(CODE, left, n);
         }
 
+        /** A kind with another one, in which no names are left open, in place of a bound name. */
         private int replaced(int kind, int index, int argument, int depth) {
-            if (reach(kind) <= index || depth > DEEPEST) {
+            if (cell(kind, REACH) <= index || depth > DEEPEST) {
                 return kind;
             }
             if (tag(kind) == BOUND) {
                 return extra(kind) == index ? argument : kind;
             }
-            pushReplaced(kind, index + binders(kind), argument, depth + 1);
-            return make(tag(kind), extra(kind), size(kind));
-        }
-
-        private void pushReplaced(int kind, int index, int argument, int depth) {
-            for (int i = 0; i < size(kind); i++) {
-                push(replaced(child(kind, i), index, argument, depth), mark(kind, i));
+            int inner = index + binders(tag(kind), extra(kind));
+            int n = size(kind);
+            for (int i = 0; i < n; i++) {
+                push(replaced(child(kind, i), inner, argument, depth + 1), mark(kind, i));
             }
+            return make(tag(kind), extra(kind), n);
         }
 
         /** The < > with field k there. */
@@ -862,7 +861,7 @@ public final class TypedDescent {
         int meaning(long name) {
             for (int i = named - 1; i >= 0; i--) {
                 if (names[i] == name) {
-                    return i < frees ? free(i) : make(BOUND, named - 1 - i, 0);
+                    return i < frees ? make(FREE, i, 0) : make(BOUND, named - 1 - i, 0);
                 }
             }
             return 0;
@@ -1825,10 +1824,6 @@ public final class TypedDescent {
             return next < size && operations[next] == RETURN && lefts[next] == targets[i];
         }
 
-        int size() {
-            return size;
-        }
-
         int operationAt(int i) {
             return i >= 0 && i < size ? operations[i] : 0;
         }
@@ -2134,15 +2129,21 @@ public final class TypedDescent {
         void read() {
             text.begin(MOST_TOKENS, MOST_OPEN);
             size = 0;
-            readBlock();
-            for (int i = 0; i < MOST_BLOCKS && text.sort() == Text.NAME; i++) {
-                readBlock();
+            boolean more = true;
+            for (int block = 0; block <= MOST_BLOCKS && more; block++) {
+                text.limit(block >= MOST_BLOCKS);
+                readHeader();
+                boolean open = true;
+                for (int i = 0; i < Text.MOST && open && !text.failed(); i++) {
+                    open = text.sort() != Text.JMP && text.sort() != Text.HALT;
+                    readInstruction();
+                }
+                more = text.sort() == Text.NAME;
             }
             text.wantEnd();
         }
 
-        private void readBlock() {
-            text.limit(size >= MOST_BLOCKS);
+        private void readHeader() {
             if (size < MOST_BLOCKS) {
                 starts[size] = text.at();
                 size++;
@@ -2151,12 +2152,6 @@ public final class TypedDescent {
             text.want(Text.COLON);
             readVars();
             readFile();
-            boolean more = true;
-            for (int i = 0; i < Text.MOST && more && !text.failed(); i++) {
-                more = text.sort() != Text.JMP && text.sort() != Text.HALT;
-                readInstruction();
-                text.want(Text.SEMICOLON);
-            }
         }
 
         private void readVars() {
@@ -2279,6 +2274,7 @@ public final class TypedDescent {
                 default:
                     break;
             }
+            text.want(Text.SEMICOLON);
         }
 
         private void readRegister() {
@@ -2564,7 +2560,7 @@ public final class TypedDescent {
             return kind == 0 ? text.fail(NAME, text.at()) : kind;
         }
 
-        /** The kind of the v here, UNKNOWN, or 0 if it has a fault; mode and operand are what it gives. */
+        /** The kind of the v here, UNKNOWN, or 0 for a fault; mode and operand tell its word. */
         private int readValue() {
             int start = text.at();
             int kind = readPlainValue();
@@ -2669,7 +2665,7 @@ public final class TypedDescent {
                     judgeMalloc();
                     break;
                 case Text.BNZ:
-                    judgeBranch();
+                    judgeLeap(sort, judgeAsked());
                     break;
                 case Text.UNPACK:
                     judgeUnpack();
@@ -2782,18 +2778,18 @@ public final class TypedDescent {
             }
         }
 
-        private void judgeBranch() {
+        /** Goes behind bnz, and behind the register that it asks; which one that is. */
+        private int judgeAsked() {
+            int asked = text.numberAt(text.at() + 1);
             text.skip(1);
-            int asked = text.numberAt(text.at());
-            if (judgeNumber(usedRegister(), text.at())) {
-                text.skip(2);
-                judgeLeap(Text.BNZ, asked);
-            }
+            judgeNumber(usedRegister(), text.at());
+            text.skip(2);
+            return asked;
         }
 
         private void judgeLeap(int sort, int asked) {
             int start = text.at();
-            int kind = readValue();
+            int kind = text.failed() ? 0 : readValue();
             if (kind == 0) {
                 return;
             }
