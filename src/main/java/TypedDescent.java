@@ -254,6 +254,9 @@ public final class TypedDescent {
         private final int[] places = new int[MOST + 1];
         private final int[] numbers = new int[MOST + 1];
         private final long[] names = new long[MOST + 1];
+        private final long[] programWords = coded(PROGRAM_WORDS, 8);
+        private final long[] blockWords = coded(BLOCK_WORDS, 16);
+        private final long[] registerWords = coded(REGISTER_WORDS, 15);
         private byte[] bytes;
         private int length;
         private boolean ofBlocks;
@@ -354,8 +357,8 @@ public final class TypedDescent {
         }
 
         private void addName(int from, long name) {
-            int word = wordIndex(ofBlocks ? BLOCK_WORDS : PROGRAM_WORDS, name);
-            int register = ofBlocks ? wordIndex(REGISTER_WORDS, name) : -1;
+            int word = indexOf(name, ofBlocks ? blockWords : programWords);
+            int register = ofBlocks ? indexOf(name, registerWords) : -1;
             if (word >= 0) {
                 addToken((ofBlocks ? FIRST_BLOCK_WORD : FIRST_PROGRAM_WORD) + word, from, 0, 0);
             } else if (register >= 0) {
@@ -365,21 +368,28 @@ public final class TypedDescent {
             }
         }
 
-        private static int wordIndex(String words, long name) {
-            long coded = 0;
-            int index = 0;
-            for (int i = 0; i < words.length(); i++) {
-                char c = words.charAt(i);
-                if (c != ' ') {
-                    coded = coded * SYMBOLS + symbol(c);
-                } else if (coded == name) {
-                    return index;
-                } else {
-                    coded = 0;
-                    index++;
+        private static int indexOf(long name, long[] words) {
+            for (int i = 0; i < words.length; i++) {
+                if (words[i] == name) {
+                    return i;
                 }
             }
             return -1;
+        }
+
+        /** The first n words of a text in which a blank ends each, as names are held. */
+        private static long[] coded(String words, int n) {
+            long[] coded = new long[n];
+            int word = 0;
+            for (int i = 0; i < words.length() && word < n; i++) {
+                char c = words.charAt(i);
+                if (c == ' ') {
+                    word++;
+                } else {
+                    coded[word] = coded[word] * SYMBOLS + symbol(c);
+                }
+            }
+            return coded;
         }
 
         /** 1 .. 62 for digits and letters, so that a name of ten of them is one long; else 0. */
@@ -2011,22 +2021,27 @@ public final class TypedDescent {
         /** Stores variables from a place on; the place behind them. */
         private int store(long variables, int from) {
             int place = from;
-            for (int slot = 0; slot < ProgramCode.VARIABLES; slot++) {
-                if ((variables >>> slot & 1L) != 0) {
+            long left = variables;
+            for (int slot = 0; slot < ProgramCode.VARIABLES && left != 0; slot++) {
+                if ((left & 1L) != 0) {
                     memory.put(place, slots[slot]);
                     place++;
                 }
+                left >>>= 1;
             }
             return place;
         }
 
+        /** Loads variables from a place on; the place behind them. */
         private int load(long variables, int from) {
             int place = from;
-            for (int slot = 0; slot < ProgramCode.VARIABLES; slot++) {
-                if ((variables >>> slot & 1L) != 0) {
+            long left = variables;
+            for (int slot = 0; slot < ProgramCode.VARIABLES && left != 0; slot++) {
+                if ((left & 1L) != 0) {
                     slots[slot] = memory.word(place);
                     place++;
                 }
+                left >>>= 1;
             }
             return place;
         }
