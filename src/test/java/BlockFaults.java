@@ -235,6 +235,12 @@ public final class BlockFaults {
         Check.blocksMarked(ready + "jmp l; l: {r1: int, r2: <int, <int>?>} halt;", 0);
         Check.blocksMarked(ready + "jmp ^l; l: {r1: int, r3: int} halt;", 5);
         Check.blocksMarked(ready + "jmp ^l; l: {r2: int}" + HALT, 5);
+        Check.blocksMarked("s: {} malloc r2 <>; jmp ^l; l: {r2: int}" + HALT, 5);
+        Check.blocksMarked("s: {} malloc r2 <>; jmp ^l; l: {r2: code {}}" + HALT, 5);
+        Check.blocksMarked("s: {} malloc r2 <>; jmp l; l: {r2: <>}" + HALT, 0);
+        Check.blocksMarked("s: {} mov r2, 1; jmp ^l; l: {r2: <>}" + HALT, 5);
+        Check.blocksMarked("s: {} mov r2, s; jmp ^l; l: {r2: <>}" + HALT, 5);
+        Check.blocksMarked("s: {} malloc r2 <int>; jmp ^l; l: {r2: some a . int}" + HALT, 5);
         String handed = "s: {}" + HALT + "l: {r1: code {r2: <int?>}, r2: <int>} ";
         Check.blocksMarked(handed + "jmp r1;", 0);
         Check.blocksMarked(handed + "jmp ^m; m: {r1: code {r2: <int>}}" + HALT, 5);
@@ -261,6 +267,14 @@ public final class BlockFaults {
         String bad = " bad: {r1: ^zz}" + HALT;
         Check.blocksMarked("s: {} jmp bad;" + bad, 4);
         Check.blocksMarked("s: {} mov r1, bad; halt;" + bad, 4);
+        String ask = "s: {} mov r1, bad; ld r2, r1(0); jmp bad [int]; bad: ";
+        Check.blocksMarked(ask + "{r1: <int, ^zz>}" + HALT, 4);
+        Check.blocksMarked(ask + "{r1: <int, <^zz>>, r1: int}" + HALT, 4);
+        Check.blocksMarked(ask + "{r1: some a . ^zz}" + HALT, 4);
+        Check.blocksMarked(ask + "{r1: code {r1: ^zz}}" + HALT, 4);
+        Check.blocksMarked(ask + "{r1: code [a ^a] {}}" + HALT, 3);
+        Check.blocksMarked(ask + "{r1: code {r1: int, ^r1: int}}" + HALT, 3);
+        Check.blocksMarked(ask + "{r1: int, ^r1: int}" + HALT, 3);
         Check.blocksMarked("s: {} mov r2, bad; add r1, r2, r2; ld r3, r2(5); st r2(0), r3; halt;" + bad, 4);
         Check.blocksMarked("s: {} mov r2, bad [int] [<>]; unpack a, r3, r2; bnz r3, r2; jmp r3;" + bad, 4);
         Check.blocksMarked("s: {} mov r1, bad; jmp l; l: {r1: <int>}" + HALT + bad, 4);
