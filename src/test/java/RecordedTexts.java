@@ -1,7 +1,8 @@
 /**
- * Texts that were made at random, with what another reading of the document, written apart from this one
- * and in another language, answered: fault, place, what is loaded, then kind, or bytes and labels; then for
- * each run its end, value and counts, and of blocks registers and heap.
+ * Texts that were made at random, with what a model in Python answered: fault, place, what is loaded, then
+ * kind, or bytes and labels; then for each run its end, value and counts, and of blocks registers and heap.
+ * The model works in other ways (trees, sets of free variables, a machine that runs the bytes), but it is of
+ * the same hand: it finds slips, not a wrong reading of the document.
  */
 public final class RecordedTexts {
     public static void main(String[] args) {
