@@ -12,15 +12,20 @@ final class Check {
         asked++;
         if (got != want) {
             wrong++;
-            System.out.println(what + ": answered " + got + ", due is " + want);
+            System.out.println(shortened(what) + ": answered " + got + ", due is " + want);
         }
+    }
+
+    private static String shortened(String what) {
+        int n = what.length();
+        return n <= 200 ? what : what.substring(0, 100) + " .. " + what.substring(n - 100);
     }
 
     static void due(String what, String got, String want) {
         asked++;
         if (!got.equals(want)) {
             wrong++;
-            System.out.println(what + ": answered \"" + got + "\", due is \"" + want + "\"");
+            System.out.println(shortened(what) + ": answered \"" + got + "\", due is \"" + want + "\"");
         }
     }
 
@@ -106,6 +111,29 @@ final class Check {
         due("calls of " + text, x.count(1), calls);
         due("met of " + text, x.count(2), met);
         due("not last of " + text, x.count(3), notLast);
+    }
+
+    /** A kind of programs that has so many parts. */
+    static String kindOfParts(int n) {
+        return rowOfParts(n, "int");
+    }
+
+    /** A value whose kind has so many parts. */
+    static String valueOfParts(int n) {
+        return rowOfParts(n, "1");
+    }
+
+    private static String rowOfParts(int n, String one) {
+        if (n == 1) {
+            return one;
+        }
+        StringBuilder row = new StringBuilder("<");
+        int fields = Math.min(8, n - 1);
+        for (int i = 0; i < fields; i++) {
+            int share = (n - 1) / fields + (i < (n - 1) % fields ? 1 : 0);
+            row.append(i == 0 ? "" : ",").append(rowOfParts(share, one));
+        }
+        return row.append('>').toString();
     }
 
     static String repeated(String part, int n) {
