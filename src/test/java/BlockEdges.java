@@ -31,6 +31,7 @@ public final class BlockEdges {
         nothingMoreIsAsked();
         labelsOfFaultyBlocks();
         leastNumber();
+        chains();
         Check.end();
     }
 
@@ -613,6 +614,9 @@ public final class BlockEdges {
         for (String text : named) {
             Check.blocksMarked("s:{}" + text + faulty[0].replace("^", "") + HALT, 4);
         }
+        // names of one faulty block are none of another one's
+        Check.blocksMarked("s:{}jmp m;b:[a ^a]{}" + HALT + "m:{r1:a}" + HALT, 3);
+        Check.blocksMarked("s:{}jmp m;b:{r1:some a.<^c>}" + HALT + "m:{r1:a}" + HALT, 4);
         // a fault in its instructions is none of its vars or file
         Check.blocksMarked("s:{}jmp ^b;b:{r2:int}mov r1,z;halt;", 5);
         Check.blocksMarked("s:{}jmp b;b:{}mov r1,^z;halt;", 4);
@@ -626,5 +630,17 @@ public final class BlockEdges {
         // unpack's name ahead of what is in its v
         Check.blocksMarked(START + "l:[a]{}unpack ^a,r2,z;" + HALT, 3);
         Check.blocksMarked(START + "l:{r2:code{r1:int,^r1:z}}" + HALT, 3);
+    }
+
+    /** As many in a row as the tokens let be. */
+    private static void chains() {
+        StringBuilder file = new StringBuilder("r1:int");
+        for (int k = 2; k <= 15; k++) {
+            file.append(",r").append(k).append(":int");
+        }
+        Check.blocksMarked(START + "l:{" + file + ",^r1:int" + ",r2:int".repeat(100) + "}" + HALT, 3);
+        Check.blocksMarked("s:{}jmp ^l" + "[int]".repeat(300) + ";l:[" + names(16) + "]{}" + HALT, 5);
+        Check.blocksMarked("s:{}" + "mov r1,1;".repeat(230) + "mov r1,^z;halt;", 4);
+        Check.blocksMarked("s:{}mov r1,l[int];jmp r1;l:[a]{}" + HALT, 0);
     }
 }

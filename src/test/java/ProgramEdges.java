@@ -19,6 +19,7 @@ public final class ProgramEdges {
         nothingMoreIsAsked();
         leastNumber();
         leftmost();
+        chains();
         Check.end();
     }
 
@@ -417,5 +418,22 @@ public final class ProgramEdges {
         Check.programMarked("if0(^<>,x,y)", 4);
         Check.programMarked("if0(1,2,^<>)+x", 4);
         Check.programMarked("^#2<1>+x", 4);
+    }
+
+    /** As many in a row as the tokens let be. */
+    private static void chains() {
+        Check.programMarked("1" + "*1".repeat(199), 0);
+        Check.programMarked("1" + "-1".repeat(199), 0);
+        Check.programMarked("1" + "+1*1".repeat(99), 0);
+        Check.programMarked("1" + "*1".repeat(198) + "*^<>", 4);
+        Check.programMarked("1" + "+1".repeat(198) + "-^<>", 4);
+        Check.programMarked("^x" + " x".repeat(399), 3);
+        Check.programMarked("x" + " x".repeat(399) + " ^x", 2);
+        String alls = "let v=" + "typ q.".repeat(15) + "7 in let v=" + "typ q.".repeat(15) + "v in let v="
+            + "typ q.".repeat(15) + "v in let v=" + "typ q.".repeat(15) + "v in ";
+        Check.programMarked(alls + "v" + "[int]".repeat(60), 0);
+        Check.programMarked(alls + "^v" + "[int]".repeat(61), 4);
+        // 2 for each of the innermost typs, 1 and 2 for each around a v, 2 for each call
+        Check.programRun(alls + "v" + "[int]".repeat(60), 7, 15 * 2 + 45 * 3 + 60 * 2, 60, 60, 60);
     }
 }

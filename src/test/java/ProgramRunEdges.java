@@ -10,6 +10,9 @@ public final class ProgramRunEdges {
         rowsOfCalls();
         rowsOfKept();
         rowsOfFix();
+        rowsFromTheLeft();
+        rowsWithinBodies();
+        keptAreThere();
         wide();
         lastThings();
         fuelOfCalls();
@@ -92,6 +95,13 @@ public final class ProgramRunEdges {
         rows("let f=typ t.1 in 5", 5, 0, 2);
         rows("let a=1 in let f=fix f(x:int):int.f(x+a) in 5", 5, 1, 2);
         rows("let a=1 in let f=fix f(x:int):int.f x in 5", 5, 0, 2);
+        String eight = "let a=1 in let b=2 in let c=3 in let d=4 in let e=5 in let g=6 in let h=7 in let i=8 in ";
+        String sum = "a+b+c+d+e+g+h+i";
+        rows(eight + "let f=fun x:int." + sum + " in 5", 5, 8, 2);
+        rows(eight + "let f=typ t." + sum + " in 5", 5, 8, 2);
+        rows(eight + "let f=fix f(x:int):int." + sum + " in 5", 5, 8, 2);
+        rows(eight + "(typ t." + sum + ")[int]", 36, 8, 2, 0, 2);
+        rows(eight + "(fun x:int." + sum + ")0+" + sum, 72, 8, 2, 8, 2);
         // one of inside is none, nor one that is told within; of an inner one those of outside count
         rows("let a=1 in let f=fun a:int.a in 5", 5, 0, 2);
         rows("let a=1 in let f=fun x:int.let a=x in a in 5", 5, 0, 2);
@@ -157,6 +167,14 @@ public final class ProgramRunEdges {
         rows(F + "let a=1 in f 7+(let b=a in 2)", 9, 0, 2, 1, 2);
         rows(F + "let a=1 in f 7+(fun y:int.a+y)2", 10, 0, 2, 1, 2, 1, 2, 1, 2);
         rows(F + "let a=1 in f 7+(let a=2 in a)", 9, 0, 2, 0, 2);
+        // both sides of a call that is left, in the text and in a body
+        rows(F + "let a=3 in f 7+f a", 10, 0, 2, 2, 2, 1, 2);
+        rows(F + "let a=3 in let g=f in f 7+g a", 10, 0, 2, 2, 2, 1, 2);
+        rows(F + "(fun a:int.f 7+f a)3", 10, 0, 2, 1, 2, 0, 2, 3, 2, 2, 2);
+        rows(F + "let a=3 in #2<f 7,#1<a>>", 3, 0, 2, 1, 2, 1, 2);
+        rows(F + "let t=<3> in f 7+#1 t", 10, 0, 2, 1, 1, 2);
+        rows(F + "let a=3 in f 7+if0(a,1,2)", 9, 0, 2, 1, 2);
+        rows(F + "let g=typ a.3 in f 7+g[int]", 10, 0, 2, 0, 2, 1, 2, 1, 2);
     }
 
     /** "At the beginning of a call (it counts as done) of a fix in whose e its f is free: 2". */
@@ -188,6 +206,43 @@ public final class ProgramRunEdges {
         Check.due("calls with " + heap + " of " + text, x.count(1), calls);
         Check.due("met with " + heap + " of " + text, x.count(2), met);
         Check.due("not last with " + heap + " of " + text, x.count(3), notLast);
+    }
+
+    /** "works out from the left, both sides of a call ahead of it"; of if0 one of two. */
+    private static void rowsFromTheLeft() {
+        rows("#1<1,2,3>-#1<4,5>", -3, 3, 2);
+        rows("#1<1,2>+#1<3>*#1<4,5,6>", 13, 2, 1, 3);
+        rows("#1<1,2>*#1<3>+#1<4,5,6>", 7, 2, 1, 3);
+        rows("#3<#1<1>,#1<1,2,3>,#1<4,5>>", 4, 1, 3, 2, 3);
+        rows("#1<fun x:int.x,1>#1<7,8,9>", 7, 0, 2, 2, 3, 0, 2);
+        rows("#1<typ a.7,1,1>[int]", 7, 0, 2, 3, 0, 2);
+        rows("let a=#1<1,2,3> in #1<4,5>+a", 5, 3, 2);
+        rows("if0(#1<0,0>,#1<1>,#1<2,3,4>)", 1, 2, 1);
+        rows("if0(#1<1,0>,#1<1>,#1<2,3,4>)", 2, 2, 3);
+        rows(F + "f #1<f 7>", 7, 0, 2, 1, 2, 1, 0, 2);
+    }
+
+    /** What waits outside of a body is none of what is kept within. */
+    private static void rowsWithinBodies() {
+        rows(F + "1+1+(fun y:int.f y+1)7", 10, 0, 2, 1, 2, 1, 2, 1, 2);
+        rows(F + "1+1+(1+1+(fun y:int.f y+1)7)", 12, 0, 2, 1, 2, 2, 2, 1, 2);
+        rows(F + "#2<1+1,(fun y:int.f y+1)7>", 8, 0, 2, 1, 2, 1, 2, 1, 2, 2);
+        rows(F + "(fun g:int->int.g 7)(fun y:int.f y+1)", 8, 0, 2, 0, 2, 1, 2, 0, 2, 1, 2);
+        rows(F + "1+1+(typ a.f 7+1)[int]", 10, 0, 2, 1, 2, 1, 2, 1, 2);
+        rows(F + "1+1+(fix g(y:int):int.f y+1)7", 10, 0, 2, 1, 2, 1, 2, 1, 2);
+        rows(F + "1+1+(fun y:int.(1+1)*f y)7", 16, 0, 2, 1, 2, 1, 2, 2, 2);
+    }
+
+    /** What is kept is there again behind the call, whatever the called body did. */
+    private static void keptAreThere() {
+        value("(fix f(n:int):int.if0(n,1,n*n+(n+n)*f(n-1)))3", 105);
+        value("(fix f(n:int):int.if0(n,1,n*n-((n+n)-(n*3)*f(n-1))))3", 111);
+        value("(fix f(n:int):int.if0(n,0,#2<n+1,n*f(n-1)+n,n+2>))3", 15);
+        value("(fix f(n:int):int.if0(n,1,let a=n*2 in let b=n*3 in f(n-1)+a-b))3", -5);
+        value("(fix f(n:int):int.if0(n,0,if0(n-1,1,f(n-1)+f(n-2))))10", 55);
+        value("(fix f(n:int):int->int.fun m:int.if0(n,m,f(n-1)(m+n)))4 5", 15);
+        value("let g=fun x:int.(x+1)*((x+2)*(x+3)) in (1+1)*((2+2)-((3+3)-g(4+4)))", 1976);
+        value("let g=fun x:int.#1<x+1,x+2> in #3<1+1,2+2,g(3+3)+g(4+4),5+5>", 16);
     }
 
     /** As many variables around a body as the twenty that are open let be, about. */

@@ -14,6 +14,8 @@ public final class TokenEdges {
         comments();
         keywords();
         registers();
+        unlikeNames();
+        cutTexts();
         Check.end();
     }
 
@@ -250,5 +252,74 @@ public final class TokenEdges {
             Check.blocksFault("s: {} mov " + name + ", 1; halt;", 1, 10);
             Check.blocksFault(name + ": {} jmp " + name + ";", 0, -1);
         }
+    }
+
+    /** Names are unlike if any of their bytes is. */
+    private static void unlikeNames() {
+        String symbols = "0123456789ABCDEFGHIJKLMNOPQRSTUVWXYZabcdefghijklmnopqrstuvwxyz";
+        for (int i = 0; i < symbols.length(); i++) {
+            TypedDescent x = new TypedDescent();
+            for (int k = 0; k < symbols.length(); k++) {
+                Check.due("let x" + symbols.charAt(i) + " and x" + symbols.charAt(k), Check.program(x,
+                    "let x" + symbols.charAt(i) + "=1 in x" + symbols.charAt(k)), i == k ? 0 : 3);
+                if (i >= 10 && k >= 10) {
+                    Check.due("let " + symbols.charAt(i) + " and " + symbols.charAt(k), Check.program(x,
+                        "let " + symbols.charAt(i) + "=1 in " + symbols.charAt(k)), i == k ? 0 : 3);
+                }
+            }
+        }
+        String name = "q0q0q0q0q0";
+        for (int i = 0; i < name.length(); i++) {
+            String other = name.substring(0, i) + (i % 2 == 0 ? "Q" : "1") + name.substring(i + 1);
+            Check.programMarked("let " + name + "=1 in ^" + other, 3);
+            Check.blocksMarked(name + ":{}jmp ^" + other + ";", 4);
+            Check.blocksMarked("s:{}" + HALT + name + ":{}jmp s;" + other + ":{}jmp s;", 0);
+        }
+        for (int n = 1; n < 10; n++) {
+            Check.programMarked("let " + name + "=1 in ^" + name.substring(0, n), 3);
+            Check.programMarked("let " + name.substring(0, n) + "=1 in ^" + name.substring(0, n + 1), 3);
+        }
+    }
+
+    /** A text ends behind its n bytes, whatever the tape has behind them, now or from before. */
+    private static void cutTexts() {
+        cut("1", "x", 0, -1);
+        cut("1", "2147483647", 0, -1);
+        cut("2147483647", "0", 0, -1);
+        cut("1+2", "x", 0, -1);
+        cut("let abcdefghij=1 in abcdefghij", "k", 0, -1);
+        cut("let x=1 in x", "y", 0, -1);
+        cut("1-", ">", 1, 2);
+        cut("fun x:int-", ">int.x", 1, 9);
+        cut("fun x:int->", ">", 1, 11);
+        cut("1 %", "\n@", 0, -1);
+        cut("let x=1 i", "n x", 1, 9);
+        cut("let x=1 in fu", "n y:int.y", 3, 11);
+        cut("1+", "1", 1, 2);
+        cut("", "1", 1, 0);
+        cut("1 ", "@", 0, -1);
+        TypedDescent x = new TypedDescent();
+        Check.feed(x, Check.bytes("s:{}jmp s;l:{}jmp s;"));
+        Check.due("one block", x.blocks(10), 0);
+        Check.due("label 1", x.label(1), -1);
+        Check.feed(x, Check.bytes("s:{}mov r1,-1;halt;"));
+        Check.due("a sign at the end", x.blocks(12), 1);
+        Check.due("its place", x.place(), 12);
+    }
+
+    private static void cut(String text, String behind, int fault, int place) {
+        TypedDescent x = new TypedDescent();
+        Check.feed(x, Check.bytes(text + behind));
+        Check.due("fault of " + text + " ahead of " + behind, x.program(text.length()), fault);
+        Check.due("place of " + text + " ahead of " + behind, x.place(), place);
+        // bytes of a text that was there before
+        Check.feed(x, Check.bytes(text + behind));
+        x.program(0);
+        if (text.length() >= 20) {
+            return;
+        }
+        Check.feed(x, Check.bytes(text + " ".repeat(20 - text.length())));
+        Check.due("fault of " + text, x.program(text.length()), fault);
+        Check.due("place of " + text, x.place(), place);
     }
 }
