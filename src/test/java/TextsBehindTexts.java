@@ -30,6 +30,9 @@ public final class TextsBehindTexts {
         "fun x:int.fun y:int.fun z:int.q",
         "1+1+(2+2)*<>",
         "<1+1,2+2,<3+3,fun x:int.x x>>",
+        "<1+1,2+2,x>",
+        "(fun x:int.x)y",
+        "let f=typ a.1 in <f[int],f[b]>",
         "(fun x:int.x)7",
         "let a=2 in (fun x:int.x)7+a",
         "1+1-((2+2)-(fun x:int.x)7)",
@@ -91,6 +94,7 @@ public final class TextsBehindTexts {
             }
         }
         manyFaults();
+        manyTexts();
         Check.end();
     }
 
@@ -133,8 +137,9 @@ public final class TextsBehindTexts {
         for (int round = 0; round < 36; round++) {
             Check.due("fault", Check.program(x, row + "x" + ">".repeat(15)), 3);
         }
-        Check.due("no fault", Check.program(x, "<1,2>"), 0);
-        Check.due("its kind", x.kind(5), 'i');
+        Check.due("no fault", Check.program(x, "#2<1,2>"), 0);
+        Check.due("run", x.run(0, 2), 0);
+        Check.due("value", x.value(), 2);
         TypedDescent y = new TypedDescent();
         for (int round = 0; round < 120; round++) {
             Check.due("fault", Check.program(y, round % 2 == 0 ? "typ a.fun x:a.(y" : "<fun x:int.x x,"), 1);
@@ -143,5 +148,26 @@ public final class TextsBehindTexts {
         Check.due("no fault", Check.program(y, "let x=(fun y:int.y)3 in x"), 0);
         Check.due("run", y.run(1, 4), 0);
         Check.due("value", y.value(), 3);
+    }
+
+    /** Texts with as many tokens as may be, one behind the other in 512 calls. */
+    private static void manyTexts() {
+        TypedDescent x = new TypedDescent();
+        for (int round = 0; round < 22; round++) {
+            int n = 190 + round % 10;
+            Check.due("fault", Check.program(x, "1+".repeat(n) + round), 0);
+            Check.due("run", x.run(0, 0), 0);
+            Check.due("value", x.value(), n + round);
+        }
+        TypedDescent y = new TypedDescent();
+        for (int round = 0; round < 13; round++) {
+            StringBuilder text = new StringBuilder("s:{}mov r1," + round + ";");
+            for (int i = 0; i < 50 + round % 10; i++) {
+                text.append("add r1,r1,1;");
+            }
+            Check.due("fault", Check.blocks(y, text + "halt;"), 0);
+            Check.due("run", y.run(2000, 0), 0);
+            Check.due("value", y.value(), 50 + round % 10 + round);
+        }
     }
 }
